@@ -57,6 +57,7 @@ public final class PromiseTest {
         testMeanHeight();
         testDigest();
         testAnswersChangeNothing();
+        testFull();
         System.out.println(wrong == 0 ? "all promises hold" : wrong + " answers are not as due");
         System.exit(wrong == 0 ? 0 : 1);
     }
@@ -224,6 +225,12 @@ public final class PromiseTest {
         due("takeBack of the only one", book.takeBack(0), 0);
         throwsOn("takeBack(0) with none", INDEX, () -> book.takeBack(0));
         due("count(2)", book.count(2), 4);
+        book.relate(SAME, 1, 0);
+        due("unit(1, 1), by the first relation", book.unit(1, 1), 0);
+        due("unit(0, 2)", book.unit(0, 2), 2);
+        book.takeBack(0);
+        due("unit(1, 1) then", book.unit(1, 1), 1);
+        due("unit(0, 2) then", book.unit(0, 2), 1);
     }
 
     private static void testRelation() {
@@ -367,6 +374,13 @@ public final class PromiseTest {
         book.relate(OVER, 4, 1);
         due("5 to 1, by way of 2 and 4", book.isLinked(5, 1), false);
         due("5 to 4, not directly", book.isLinked(5, 4), false);
+        TrenchBook third = bookOfLayers(3);
+        third.relate(OVER, 1, 0);
+        third.relate(OVER, 0, 2);
+        third.relate(OVER, 1, 2);
+        due("1 to 2, by way of 0", third.isLinked(1, 2), false);
+        due("1 to 0", third.isLinked(1, 0), true);
+        due("count(3)", third.count(3), 2);
         dueBadUnitPairs("isLinked", 6, (a, b) -> book.isLinked(a, b));
     }
 
@@ -870,6 +884,11 @@ public final class PromiseTest {
         due("count(8)", book.count(8), 5);
         book.phaseAll();
         dueOutOfPhase(book, -1, -1);
+        TrenchBook last = bookOfLayers(2);
+        last.relate(OVER, 1, 0);
+        last.setPhase(0, 1);
+        dueOutOfPhase(last, 1, 0);
+        due("count(8) of 1 over 0", last.count(8), 1);
     }
 
     private static void dueOutOfPhase(TrenchBook book, int first, int second) {
@@ -941,6 +960,44 @@ public final class PromiseTest {
         due("a refused relation", book.relate(OVER, 1, 0), 4);
         due("a way", book.way(0, 1, 1), 1);
         due("digest()", book.digest(), before);
+    }
+
+    /** With 40 units, 80 relations and 60 finds each call still answers. */
+    private static void testFull() {
+        promise = "terms: at most 40 units, 80 relations and 60 finds";
+        TrenchBook book = chainOf(40);
+        for (int unit = 0; book.count(1) < 80; unit++) {
+            int over = unit < 38 ? unit : unit - 38;
+            due("a relation more", book.relate(OVER, over, over + (unit < 38 ? 2 : 3)), 0);
+        }
+        for (int find = 0; find < 60; find++) {
+            book.addFind(find % 40, find % 10, find, find);
+            book.place(find, find, find, find);
+        }
+        dueCounts(book, 40, 80, 40, 39, 60, 0, 0, 40, 0);
+        dueOutOfPhase(book, -1, -1);
+        due("phaseAll()", book.phaseAll(), 39);
+        due("doubt(39)", book.doubt(39), -1);
+        due("dig(0)", book.dig(0), 1);
+        due("dig(1)", book.dig(1), 1);
+        due("next(39)", book.next(39), -1);
+        due("row(39, true, 39)", book.row(39, true, 39), -1);
+        due("way(0, 39, 39)", book.way(0, 39, 39), 39);
+        due("way(39, 0, 39)", book.way(39, 0, 39), -1);
+        due("between(0, 39)", book.between(0, 39), 38);
+        due("order(39, 0)", book.order(39, 0), -1);
+        due("date(39, 2000, 2000)", book.date(39, 2000, 2000), 0);
+        due("bound(0, false)", book.bound(0, false), 2000);
+        due("find(59, 7)", book.find(59, 7), 1);
+        due("move(59, 39)", book.move(59, 39), 19);
+        due("unit(39, 9)", book.unit(39, 9), 2);
+        due("nearest(5000, 5000, 1000, -1)", book.nearest(5000, 5000, 1000, -1), 59);
+        dueDouble("meanHeight()", book.meanHeight(), 29.5);
+        due("digest() twice", book.digest(), book.digest());
+        due("takeBack(79)", book.takeBack(79), 79);
+        due("takeBack(0)", book.takeBack(0), 78);
+        due("isLinked(0, 1)", book.isLinked(0, 1), false);
+        due("isLinked(0, 2)", book.isLinked(0, 2), true);
     }
 
     // ---- helpers
