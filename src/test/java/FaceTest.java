@@ -8,14 +8,37 @@ import java.util.TreeSet;
 
 /** The class shows the document's face, and nothing else (promise 1's constructor, and 26 methods). */
 public final class FaceTest {
+    private static final String ARGUMENT = "IllegalArgumentException";
+    private static final String INDEX = "IndexOutOfBoundsException";
+    private static final String STATE = "IllegalStateException";
+
     private static final List<String> FACE = Arrays.asList(
-        "int addUnit(int)", "int relate(int,int,int)", "int takeBack(int)", "int relation(int,int)",
-        "int count(int)", "int unit(int,int)", "int order(int,int)", "boolean isLinked(int,int)",
-        "int row(int,boolean,int)", "int way(int,int,int)", "int between(int,int)",
-        "int addFind(int,int,int,int)", "int place(int,int,int,int)", "int move(int,int)",
-        "int find(int,int)", "int date(int,int,int)", "int bound(int,boolean)", "int doubt(int)",
-        "int nearest(int,int,int,int)", "int dig(int)", "int next(int)", "int setPhase(int,int)",
-        "int phaseAll()", "int outOfPhase(boolean)", "double meanHeight()", "long digest()");
+        "int addUnit(int)" + throwing(ARGUMENT, STATE),
+        "int relate(int,int,int)" + throwing(ARGUMENT, INDEX, STATE),
+        "int takeBack(int)" + throwing(INDEX),
+        "int relation(int,int)" + throwing(INDEX),
+        "int count(int)" + throwing(INDEX),
+        "int unit(int,int)" + throwing(INDEX),
+        "int order(int,int)" + throwing(INDEX),
+        "boolean isLinked(int,int)" + throwing(INDEX),
+        "int row(int,boolean,int)" + throwing(INDEX),
+        "int way(int,int,int)" + throwing(INDEX, ARGUMENT),
+        "int between(int,int)" + throwing(INDEX),
+        "int addFind(int,int,int,int)" + throwing(INDEX, ARGUMENT, STATE),
+        "int place(int,int,int,int)" + throwing(INDEX, ARGUMENT),
+        "int move(int,int)" + throwing(INDEX),
+        "int find(int,int)" + throwing(INDEX),
+        "int date(int,int,int)" + throwing(INDEX, ARGUMENT),
+        "int bound(int,boolean)" + throwing(INDEX),
+        "int doubt(int)" + throwing(INDEX),
+        "int nearest(int,int,int,int)" + throwing(ARGUMENT),
+        "int dig(int)" + throwing(INDEX, STATE),
+        "int next(int)" + throwing(INDEX),
+        "int setPhase(int,int)" + throwing(INDEX, ARGUMENT),
+        "int phaseAll()" + throwing(),
+        "int outOfPhase(boolean)" + throwing(),
+        "double meanHeight()" + throwing(),
+        "long digest()" + throwing());
 
     private static int wrong = 0;
 
@@ -63,7 +86,17 @@ public final class FaceTest {
             text.append(comma).append(type);
             comma = ",";
         }
-        return text.append(')').toString();
+        text.append(')');
+        Class<?>[] types = method.getExceptionTypes();
+        String[] names = new String[types.length];
+        for (int place = 0; place < types.length; place++) {
+            names[place] = types[place].getSimpleName();
+        }
+        return text.append(throwing(names)).toString();
+    }
+
+    private static String throwing(String... exceptions) {
+        return " throws " + String.join(", ", exceptions);
     }
 
     private static void checkFields() {

@@ -481,7 +481,8 @@ public final class PromiseTest {
     }
 
     private static void dueWay(TrenchBook book, int a, int b, int... bodies) {
-        for (int index = 0; index < 40; index++) {
+        // not up to 39, since an object is good for 512 calls
+        for (int index = 0; index < bodies.length + 5; index++) {
             due("way(" + a + ", " + b + ", " + index + ")", book.way(a, b, index),
                 index < bodies.length ? bodies[index] : -1);
         }
