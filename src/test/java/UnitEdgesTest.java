@@ -215,6 +215,15 @@ public final class UnitEdgesTest extends Edges {
             book.takeBack(0);
             dueTold(book, CUTS, 1, 0);
         });
+        edge("3 not refused by 3: the last one or the only one, taken back", () -> {
+            TrenchBook book = rich();
+            book.takeBack(5);
+            dueTold(book, OVER, 6, 5);
+            TrenchBook only = layers(2);
+            only.relate(SAME, 0, 1);
+            only.takeBack(0);
+            dueTold(only, SAME, 1, 0);
+        });
         edge("3 refused by 3: the first one and the last one of 79", () -> {
             dueKept(3, () -> related(79), book -> book.relate(OVER, 0, 1));
             dueKept(3, () -> related(79), book ->
@@ -663,6 +672,16 @@ public final class UnitEdgesTest extends Edges {
             book.dig(39);
             dueUnit(book, 39, 7, 1);
             dueUnit(book, 38, 7, 0);
+        });
+        edge("7 a unit is dug, not its body", () -> {
+            TrenchBook book = oneBody(40);
+            book.dig(39);
+            dueUnit(book, 39, 7, 1);
+            dueUnit(book, 0, 7, 0);
+            TrenchBook first = oneBody(40);
+            first.dig(0);
+            dueUnit(first, 0, 7, 1);
+            dueUnit(first, 39, 7, 0);
         });
         edge("7 a phase of 0 at first, of 20 at most", () -> {
             TrenchBook book = layers(40);
